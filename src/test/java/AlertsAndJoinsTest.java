@@ -26,6 +26,7 @@ public final class AlertsAndJoinsTest {
     private static void waiting() {
         GaugeHall hall = new GaugeHall();
         hall.open(0, 0);
+        Expect.same("setAlert without samples, below 0", 'o', () -> hall.setAlert(0, -10000, 0));
         Expect.same("setAlert without samples", 'o', () -> hall.setAlert(0, 50, 10));
         hall.pass(30);
         state(hall, "without samples, later", 'o');

@@ -16,6 +16,7 @@ public final class RangesTest {
         rollups();
         rollupRanges();
         wrongRollups();
+        oneAfterAnother();
         Expect.end();
     }
 
@@ -154,5 +155,23 @@ public final class RangesTest {
         Expect.same("countLow without samples", 0, () -> hall.countLow(1, 0, 100));
         Expect.same("countHigh without samples", 0, () -> hall.countHigh(1, 0, 100));
         Expect.refused("maximumHigh without samples", STATE, () -> hall.maximumHigh(1, 0, 100));
+    }
+
+    /** No answer may lean on what the call before has found. */
+    private static void oneAfterAnother() {
+        GaugeHall hall = filled();
+        for (int round = 0; round < 2; round++) {
+            Expect.same("sumByReading after others", 48, () -> hall.sumByReading(0, 9, 29));
+            Expect.same("count after others", 2, () -> hall.count(0, 31, 32));
+            Expect.same("sumByReading after others", 55, () -> hall.sumByReading(0, 3, 15));
+            Expect.same("countLow after others", 3, () -> hall.countLow(0, 0, 9));
+            Expect.same("sum after others", 100, () -> hall.sum(0, 10, 10));
+            Expect.same("countHigh after others", 1, () -> hall.countHigh(0, 69, 69));
+            Expect.same("countLow after others", 2, () -> hall.countLow(0, 10, 19));
+            Expect.same("maximum after others", -9, () -> hall.maximum(0, 29, 29));
+            Expect.same("rollupCount after others", 4, () -> hall.rollupCount(0, 3));
+            Expect.same("maximumHigh after others", -9, () -> hall.maximumHigh(0, 20, 29));
+            Expect.same("mean after others", -8.5, () -> hall.mean(0, 29, 30));
+        }
     }
 }

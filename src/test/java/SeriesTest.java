@@ -44,6 +44,7 @@ public final class SeriesTest {
         Expect.same("open(0, 9)", 0, () -> hall.open(0, 9));
         Expect.same("open(9, 0)", 1, () -> hall.open(9, 0));
         Expect.same("open(9, 9)", 2, () -> hall.open(9, 9));
+        Expect.refused("open(0, 9) again", STATE, () -> hall.open(0, 9));
         Expect.refused("open(9, 0) again", STATE, () -> hall.open(9, 0));
         Expect.same("open(0, 0)", 3, () -> hall.open(0, 0));
         Expect.same("seriesCount", 4, () -> hall.seriesCount());
@@ -92,6 +93,7 @@ public final class SeriesTest {
         Expect.same("add to the other series", 1, () -> hall.add(1, -10000));
         hall.pass(1);
         Expect.same("add a second later", 2, () -> hall.add(0, -7));
+        Expect.refused("add at the same later time", STATE, () -> hall.add(0, 8));
         Expect.same("samples(0)", 2, () -> hall.samples(0));
         Expect.same("samples(1)", 1, () -> hall.samples(1));
         Expect.same("latest(0)", -7, () -> hall.latest(0));

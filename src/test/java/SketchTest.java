@@ -74,6 +74,23 @@ public final class SketchTest {
         quantiles(twice, 75, 13, 14);
         quantiles(twice, 76, 17, 15);
         quantiles(twice, 100, 17, 18);
+        // The third time again the second, fourth, sixth and eighth: 22 24 26 28, each for 2 samples.
+        GaugeHall thrice = filled(8, 7, 6, 5, 4, 3, 2, 1, 18, 17, 16, 15, 14, 13, 12, 11,
+                21, 22, 23, 24, 25, 26, 27, 28);
+        boundAndHeld(thrice, 5, 8);
+        quantiles(thrice, 67, 22, 21);
+        quantiles(thrice, 76, 24, 23);
+        quantiles(thrice, 100, 28, 28);
+        // The fourth time the first, third, fifth and seventh: 31 33 35 37. The level 1, full for the
+        // second time, gives 22 26 31 35 to the level 2: 4 8 13 17 22 26 31 35, of which 8 17 26 35
+        // go to the level 3, each for 8 samples.
+        GaugeHall often = filled(8, 7, 6, 5, 4, 3, 2, 1, 18, 17, 16, 15, 14, 13, 12, 11,
+                21, 22, 23, 24, 25, 26, 27, 28, 31, 32, 33, 34, 35, 36, 37, 38);
+        boundAndHeld(often, 4 + 2 * 2 + 4, 4);
+        quantiles(often, 25, 8, 8);
+        quantiles(often, 26, 17, 11);
+        quantiles(often, 75, 26, 28);
+        quantiles(often, 76, 35, 31);
         // One more stands beside them on the level 0.
         GaugeHall more = filled(8, 7, 6, 5, 4, 3, 2, 1, 18, 17, 16, 15, 14, 13, 12, 11, 0);
         boundAndHeld(more, 4, 5);
