@@ -87,6 +87,10 @@ public final class DamageTest {
         within(hall, 40, 0, false);
         within(hall, 40, 2, false);
         within(hall, 40, 3, true);
+        // All five are less than 6.
+        setSketch(hall, new int[][] {{6, 5}});
+        within(hall, 40, 3, false);
+        within(hall, 40, 4, true);
         GaugeHall equal = Halls.withValues(1, 3, 3, 3, 5);
         setSketch(equal, new int[][] {{3, 5}});
         within(equal, 40, 0, true);
